@@ -6,6 +6,7 @@ final class Promise07Test {
 
   static void run() {
     operationsAreDropped();
+    oneOperationIsDropped();
     itNeedsATransaction();
     itMakesWaysStaleIfThereWereOperations();
   }
@@ -28,6 +29,19 @@ final class Promise07Test {
     graph.begin();
     graph.commit();
     Checks.due("writes behind an empty commit()", graph.count(Probe.WRITES), 62);
+  }
+
+  private static void oneOperationIsDropped() {
+    BlockGraph graph = Probe.formatted();
+    Probe.commitEdges(graph, 1);
+    graph.begin();
+    graph.remove(0);
+    graph.run(0);
+    Checks.due("abort() of one", graph.abort(), 1);
+    Checks.due("edges behind it", graph.count(Probe.EDGES), 1);
+    Checks.refused(graph, "distance behind it", STATE, () -> graph.distance(0));
+    graph.recover();
+    Checks.due("edge 0 behind it", Probe.edge(graph, 0), "0 1 1");
   }
 
   private static void itNeedsATransaction() {
