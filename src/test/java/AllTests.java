@@ -7,6 +7,12 @@ public final class AllTests {
   public static void main(String[] args) throws IOException {
     FaceTest.run();
     LanguageTest.run();
+    TermsGraphTest.run();
+    TermsBlocksTest.run();
+    TermsPowerTest.run();
+    TermsHandTest.run();
+    TermsWaysTest.run();
+    TermsRefusalTest.run();
     Promise01Test.run();
     Promise02Test.run();
     Promise03Test.run();

@@ -1,3 +1,5 @@
+import java.util.function.Consumer;
+
 /** Counts what passed, and prints every answer that is not the one that is due. */
 final class Checks {
   private static final Class<?>[] FACE_EXCEPTIONS = {
@@ -23,6 +25,17 @@ final class Checks {
     String before = Probe.state(graph);
     due(what, thrownBy(call), kind.getSimpleName());
     due("the state behind " + what, Probe.state(graph), before);
+  }
+
+  /**
+   * The call throws just this exception, and changes nothing: an object that was called so answers
+   * everything as its twin does that was not.
+   */
+  static void refused(States.State state, String what, Class<?> kind, Consumer<BlockGraph> call) {
+    String name = what + " " + state.name();
+    BlockGraph graph = state.make();
+    due(name, thrownBy(() -> call.accept(graph)), kind.getSimpleName());
+    due("all behind " + name, Probe.everything(graph), Probe.everything(state.make()));
   }
 
   /** The name of what the call throws. */

@@ -50,6 +50,20 @@ final class Probe {
     return graph;
   }
 
+  /** Its log is full, about the blocks 1, 3 and 4; no home block of it was written. */
+  static BlockGraph withFullLog() {
+    BlockGraph graph = formatted();
+    commitEdges(graph, 17);
+    graph.begin();
+    graph.remove(16);
+    graph.remove(15);
+    graph.remove(5);
+    graph.add(20, 21, 22);
+    graph.arm(5);
+    graph.commit();
+    return graph;
+  }
+
   /** Commits so many edges from vertex 0 to vertex 1, of weight 1, twenty at a time. */
   static void commitEdges(BlockGraph graph, int edges) {
     for (int done = 0; done < edges; done += 20) {
@@ -71,7 +85,8 @@ final class Probe {
 
   static String hand(BlockGraph graph) {
     StringBuilder text = new StringBuilder();
-    for (int k = 0; k < graph.count(AT_HAND); k++) {
+    int size = graph.count(AT_HAND);
+    for (int k = 0; k < size; k++) {
       text.append(k == 0 ? "" : " ").append(graph.atHand(k));
     }
     return text.toString();
@@ -83,18 +98,46 @@ final class Probe {
         + answer(() -> graph.parent(1));
   }
 
-  /** The vertices of a way, one behind the other. */
-  static String way(BlockGraph graph, int vertex) {
-    StringBuilder text = new StringBuilder();
+  /**
+   * All that the object tells, and what becomes of it later. Two objects that differ in anything
+   * that can be asked for, now or behind run(), commit() and recover(), differ here. The object is
+   * used up by it, for it takes more than half of the 512 calls that an object is good for.
+   */
+  static String everything(BlockGraph graph) {
+    StringBuilder text = new StringBuilder(state(graph));
     for (int k = 0; k < 64; k++) {
+      int vertex = k;
+      text.append(" ").append(answer(() -> graph.distance(vertex)));
+      text.append("/").append(answer(() -> graph.parent(vertex)));
+    }
+    text.append(" | way ").append(way(graph, 63)).append(" | ").append(someEdges(graph));
+    text.append(" | run ").append(answer(() -> graph.run(0))).append(" ").append(state(graph));
+    text.append(" | commit ").append(answer(() -> graph.commit() ? 1 : 0));
+    text.append(" ").append(counts(graph)).append(" | recover ").append(graph.recover());
+    return text.append(" ").append(counts(graph)).append(" ").append(someEdges(graph)).toString();
+  }
+
+  /** The parts of some twelve edges, the first and the last number among them. */
+  private static String someEdges(BlockGraph graph) {
+    StringBuilder text = new StringBuilder();
+    for (int edge : new int[] {0, 1, 2, 3, 4, 5, 6, 77, 180, 198, 199}) {
+      text.append(edge == 0 ? "" : ", ").append(edge(graph, edge));
+    }
+    return text.toString();
+  }
+
+  /** The vertices of a way, one behind the other; what is thrown if there is none. */
+  static String way(BlockGraph graph, int vertex) {
+    String text = answer(() -> graph.way(vertex, 0));
+    for (int k = 1; k < 64 && !text.endsWith("Exception"); k++) {
       int place = k;
       String next = answer(() -> graph.way(vertex, place));
       if (next.equals("IndexOutOfBoundsException")) {
         break;
       }
-      text.append(k == 0 ? "" : " ").append(next);
+      text += " " + next;
     }
-    return text.toString();
+    return text;
   }
 
   /** From, to and weight of an edge. */

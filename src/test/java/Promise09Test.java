@@ -37,24 +37,10 @@ final class Promise09Test {
     Checks.due("counts behind it", Probe.counts(graph), "1 57 0 -1 0 -1 1 0");
   }
 
-  /** Its log is full, about the blocks 1, 3 and 4; no home block of it was written. */
-  private static BlockGraph withFullLog() {
-    BlockGraph graph = Probe.formatted();
-    Probe.commitEdges(graph, 17);
-    graph.begin();
-    graph.remove(16);
-    graph.remove(15);
-    graph.remove(5);
-    graph.add(20, 21, 22);
-    graph.arm(5);
-    graph.commit();
-    return graph;
-  }
-
   private static void thePowerFailsBehind(int writes) {
     String name = "recover() armed with " + writes;
     String[] hands = {"", "1", "3 1", "4 3 1", "4 3 1"};
-    BlockGraph graph = withFullLog();
+    BlockGraph graph = Probe.withFullLog();
     int before = graph.count(Probe.WRITES);
     boolean whole = writes == HOME_BLOCKS + 1;
     graph.arm(writes);
@@ -75,7 +61,7 @@ final class Promise09Test {
   }
 
   private static void itMayFailAgainAndAgain() {
-    BlockGraph graph = withFullLog();
+    BlockGraph graph = Probe.withFullLog();
     for (int k = 0; k < 5; k++) {
       graph.arm(k % 4);
       Checks.due("recover() without power for all", graph.recover(), Probe.POWER_FAILED);
@@ -87,7 +73,7 @@ final class Promise09Test {
   }
 
   private static void aLogIsBroughtHomeOnce() {
-    BlockGraph graph = withFullLog();
+    BlockGraph graph = Probe.withFullLog();
     graph.recover();
     graph.begin();
     graph.remove(5);
@@ -113,7 +99,7 @@ final class Promise09Test {
 
   /** The document lets the mark alone say whether recover() writes. */
   private static void aFullLogWithoutAGraphIsWrittenByItsMark() {
-    BlockGraph graph = withFullLog();
+    BlockGraph graph = Probe.withFullLog();
     graph.arm(1);
     graph.format();
     int before = graph.count(Probe.WRITES);
