@@ -7,6 +7,7 @@ public final class AllTests {
   public static void main(String[] args) throws IOException {
     FaceTest.run();
     LanguageTest.run();
+    BoundariesTest.run();
     TermsGraphTest.run();
     TermsBlocksTest.run();
     TermsPowerTest.run();

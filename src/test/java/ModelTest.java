@@ -12,11 +12,13 @@ final class ModelTest {
   private final Model model = new Model();
   private final int run;
   private final int vertices;
+  private final boolean grows;
   private long seed;
 
   private ModelTest(int number) {
     run = number;
     seed = number * 7919L + 17;
+    grows = number % 4 == 0;
     vertices = 2 + below(number % 3 == 0 ? 6 : 62);
   }
 
@@ -44,12 +46,25 @@ final class ModelTest {
 
   private void step() {
     int dice = below(100);
-    if (model.count(7) == 1 && dice < 50) {
+    if (grows && model.count(7) == 0 && model.count(0) < 200 && dice > 3) {
+      grow();
+    } else if (model.count(7) == 1 && dice < 50) {
       mend(dice);
     } else if (dice < 60) {
       change(dice);
     } else {
       ask(dice);
+    }
+  }
+
+  /** Mixed calls alone hardly come near 20 operations and never near 200 edges. */
+  private void grow() {
+    if (model.count(3) == -1) {
+      same("begin()", () -> done(graph::begin), () -> done(model::begin));
+    } else if (model.count(3) == 20 && below(3) > 0) {
+      same("commit()", () -> graph.commit() ? 1 : 0, () -> model.commit() ? 1 : 0);
+    } else {
+      addBoth(mostly(below(vertices)), mostly(below(vertices)), mostly(1 + below(9)));
     }
   }
 

@@ -64,6 +64,21 @@ final class Probe {
     return graph;
   }
 
+  /** Edge k leads from vertex k to the next one, and edge 63 to vertex 0. */
+  static BlockGraph withRing() {
+    BlockGraph graph = formatted();
+    for (int vertex = 0; vertex < 64; vertex++) {
+      if (vertex % 16 == 0) {
+        graph.begin();
+      }
+      graph.add(vertex, (vertex + 1) % 64, 1 + vertex);
+      if (vertex % 16 == 15) {
+        graph.commit();
+      }
+    }
+    return graph;
+  }
+
   /** Commits so many edges from vertex 0 to vertex 1, of weight 1, twenty at a time. */
   static void commitEdges(BlockGraph graph, int edges) {
     for (int done = 0; done < edges; done += 20) {

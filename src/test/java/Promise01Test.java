@@ -8,6 +8,8 @@ final class Promise01Test {
     Checks.due("recover() of a new object", new BlockGraph().recover(), Probe.NO_GRAPH);
     recoverWritesNothing();
     everythingThatNeedsAGraphIsRefused();
+    nothingIsArmed();
+    theRoomIsForEight();
     objectsShareNothing();
   }
 
@@ -33,6 +35,21 @@ final class Promise01Test {
     Checks.refused(graph, "way of a new object", state, () -> graph.way(0, 0));
     Checks.refused(graph, "atHand of a new object", IndexOutOfBoundsException.class,
         () -> graph.atHand(0));
+  }
+
+  private static void nothingIsArmed() {
+    BlockGraph graph = new BlockGraph();
+    for (int k = 1; k <= 20; k++) {
+      Checks.due("format() number " + k + " of a new object", graph.format(), true);
+    }
+    Checks.due("writes behind them", graph.count(Probe.WRITES), 20 * 53);
+  }
+
+  private static void theRoomIsForEight() {
+    BlockGraph graph = new BlockGraph();
+    Checks.due("at hand of a new object", graph.count(Probe.AT_HAND), 0);
+    graph.format();
+    Checks.due("at hand with the first room", graph.count(Probe.AT_HAND), 8);
   }
 
   private static void objectsShareNothing() {

@@ -12,6 +12,7 @@ final class Promise02Test {
     }
     itMendsWhatIsDown();
     nothingWrittenKeepsTheOldGraph();
+    anOpenTransactionIsDroppedWhereverItFails();
   }
 
   private static void aNewGraphIsEmpty() {
@@ -83,6 +84,25 @@ final class Promise02Test {
     graph.format();
     Checks.due("edges behind format() when down", graph.count(Probe.EDGES), 0);
     Checks.due("down behind format() when down", graph.count(Probe.DOWN), 0);
+  }
+
+  /** That none is open shows in begin(), which would be refused. */
+  private static void anOpenTransactionIsDroppedWhereverItFails() {
+    for (int writes : new int[] {0, 1, 52, 53}) {
+      BlockGraph graph = States.OPEN.make();
+      graph.arm(writes);
+      graph.format();
+      String name = "format() with " + writes + " writes in a transaction";
+      Checks.due(name + ": operations", graph.count(Probe.OPERATIONS), -1);
+      graph.arm(BlockGraph.NONE);
+      if (graph.recover() == Probe.NO_GRAPH) {
+        graph.format();
+      }
+      Checks.due(name + ", then operations", graph.count(Probe.OPERATIONS), -1);
+      graph.begin();
+      Checks.due(name + ", then of the next", graph.count(Probe.OPERATIONS), 0);
+      Checks.due(name + ", then edges", graph.count(Probe.EDGES), writes == 0 ? 5 : 0);
+    }
   }
 
   private static void nothingWrittenKeepsTheOldGraph() {

@@ -16,6 +16,7 @@ final class Promise03Test {
     graph.begin();
     Checks.due("operations of a third transaction", graph.count(Probe.OPERATIONS), 0);
     itKeepsWays();
+    itIsTakenWhenTheOpenOneIsGone();
     BlockGraph down = Probe.down();
     Checks.refused(down, "begin() when down", IllegalStateException.class, down::begin);
     BlockGraph none = Probe.withoutGraph();
@@ -23,6 +24,22 @@ final class Promise03Test {
     none.recover();
     Checks.refused(none, "begin() behind recover() without a graph", IllegalStateException.class,
         none::begin);
+  }
+
+  private static void itIsTakenWhenTheOpenOneIsGone() {
+    BlockGraph graph = Probe.begun();
+    graph.recover();
+    graph.begin();
+    Checks.due("operations behind recover() and begin()", graph.count(Probe.OPERATIONS), 0);
+    graph.format();
+    graph.begin();
+    Checks.due("operations behind format() and begin()", graph.count(Probe.OPERATIONS), 0);
+    graph.add(0, 1, 1);
+    graph.arm(0);
+    graph.commit();
+    graph.recover();
+    graph.begin();
+    Checks.due("operations behind a lost one and begin()", graph.count(Probe.OPERATIONS), 0);
   }
 
   private static void itKeepsWays() {

@@ -8,6 +8,9 @@ final class Promise04Test {
 
   static void run() {
     numbersAreTheLeastFree();
+    theTwentiethOperationIsTheLast();
+    theTwoHundredthEdgeIsTheLast();
+    visibleEdgesAreCountedNotCommittedOnes();
     edgesMayBeLoopsOrTheSame();
     wrongInputsAreRefused();
     twentyOperationsAreTheMost();
@@ -36,6 +39,42 @@ final class Promise04Test {
     graph.begin();
     Checks.due("edge behind abort()", graph.add(7, 8, 9), 4);
     Checks.due("edge 0 behind abort()", Probe.edge(graph, 0), "0 1 1");
+  }
+
+  private static void theTwentiethOperationIsTheLast() {
+    BlockGraph graph = States.NINETEEN.make();
+    Checks.due("operations before the last one", graph.count(Probe.OPERATIONS), 19);
+    Checks.due("add as the 20th operation", graph.add(0, 1, 1), 6);
+    Checks.due("operations behind it", graph.count(Probe.OPERATIONS), 20);
+    Checks.due("commit() of 20", graph.commit(), true);
+    Checks.due("edge 6 behind it", Probe.edge(graph, 6), "0 1 1");
+    Checks.refused(States.TWENTY, "add", UNSUPPORTED, one -> one.add(0, 1, 1));
+  }
+
+  private static void theTwoHundredthEdgeIsTheLast() {
+    BlockGraph graph = Probe.formatted();
+    Probe.commitEdges(graph, 199);
+    graph.begin();
+    Checks.due("add as the 200th edge", graph.add(63, 63, 32767), 199);
+    Checks.due("edges behind it", graph.count(Probe.EDGES), 200);
+    Checks.refused(graph, "add of one more", UNSUPPORTED, () -> graph.add(0, 1, 1));
+    Checks.due("commit() of it", graph.commit(), true);
+    Checks.due("edge 199 behind it", Probe.edge(graph, 199), "63 63 32767");
+    Checks.refused(States.FULL, "add", UNSUPPORTED, one -> one.add(0, 1, 1));
+  }
+
+  private static void visibleEdgesAreCountedNotCommittedOnes() {
+    BlockGraph graph = States.FULL.make();
+    graph.remove(199);
+    graph.remove(0);
+    Checks.due("add in place of edge 0", graph.add(1, 2, 3), 0);
+    Checks.due("add in place of edge 199", graph.add(4, 5, 6), 199);
+    Checks.due("operations of all", graph.count(Probe.OPERATIONS), 4);
+    Checks.refused(graph, "add of one more", UNSUPPORTED, () -> graph.add(0, 1, 1));
+    graph.abort();
+    graph.begin();
+    Checks.refused(graph, "add behind abort()", UNSUPPORTED, () -> graph.add(0, 1, 1));
+    Checks.due("edge 199 behind abort()", Probe.edge(graph, 199), "0 1 1");
   }
 
   private static void edgesMayBeLoopsOrTheSame() {

@@ -11,6 +11,8 @@ final class Promise05Test {
     visibleEdgesGo();
     wrongEdgesAreRefused();
     twentyOperationsAreTheMost();
+    theTwentiethOperationIsTheLast();
+    theFirstAndTheLastEdgeGo();
     itNeedsATransaction();
     itMakesWaysStale();
   }
@@ -61,6 +63,31 @@ final class Promise05Test {
       graph.remove(k);
     }
     Checks.due("edges behind 20 removes", graph.count(Probe.EDGES), 0);
+  }
+
+  private static void theTwentiethOperationIsTheLast() {
+    BlockGraph graph = States.NINETEEN.make();
+    graph.remove(0);
+    Checks.due("operations behind a 20th", graph.count(Probe.OPERATIONS), 20);
+    Checks.due("edges behind it", graph.count(Probe.EDGES), 5);
+    Checks.due("commit() of 20", graph.commit(), true);
+    Checks.due("edge 0 behind it", Probe.answer(() -> graph.edge(0, 0)), "NoSuchElementException");
+    Checks.refused(States.TWENTY, "remove(0)", UnsupportedOperationException.class,
+        one -> one.remove(0));
+  }
+
+  private static void theFirstAndTheLastEdgeGo() {
+    BlockGraph graph = States.FULL.make();
+    graph.remove(0);
+    graph.remove(199);
+    Checks.due("edges behind two removes", graph.count(Probe.EDGES), 198);
+    Checks.refused(graph, "remove(0) again", NO_ELEMENT, () -> graph.remove(0));
+    Checks.refused(graph, "remove(199) again", NO_ELEMENT, () -> graph.remove(199));
+    Checks.refused(States.OPEN, "remove(1), which is removed", NO_ELEMENT, one -> one.remove(1));
+    Checks.refused(States.OPEN, "remove(6), one behind the last", NO_ELEMENT,
+        one -> one.remove(6));
+    Checks.refused(States.OPEN, "remove(-1)", NO_ELEMENT, one -> one.remove(-1));
+    Checks.refused(States.FULL, "remove(200)", NO_ELEMENT, one -> one.remove(200));
   }
 
   private static void itNeedsATransaction() {

@@ -7,6 +7,7 @@ final class Promise07Test {
   static void run() {
     operationsAreDropped();
     oneOperationIsDropped();
+    noneToTwentyAreTold();
     itNeedsATransaction();
     itMakesWaysStaleIfThereWereOperations();
   }
@@ -42,6 +43,21 @@ final class Promise07Test {
     Checks.refused(graph, "distance behind it", STATE, () -> graph.distance(0));
     graph.recover();
     Checks.due("edge 0 behind it", Probe.edge(graph, 0), "0 1 1");
+  }
+
+  private static void noneToTwentyAreTold() {
+    BlockGraph none = States.IDLE.make();
+    none.begin();
+    Checks.due("abort() of nothing", none.abort(), 0);
+    Checks.due("abort() of 19", States.NINETEEN.make().abort(), 19);
+    BlockGraph twenty = States.TWENTY.make();
+    Checks.due("abort() of 20", twenty.abort(), 20);
+    Checks.due("edges behind it", twenty.count(Probe.EDGES), 5);
+    BlockGraph full = States.FULL_AND_TWENTY.make();
+    Checks.due("abort() of 20 new edges", full.abort(), 20);
+    Checks.due("edges behind those", full.count(Probe.EDGES), 180);
+    full.begin();
+    Checks.due("the next number behind them", full.add(0, 1, 1), 180);
   }
 
   private static void itNeedsATransaction() {

@@ -6,6 +6,8 @@ final class Promise08Test {
     writesAreCountedDown();
     theLatestOneCounts();
     wrongInputsAreRefused();
+    noneIsNotBelowMinusOne();
+    zeroFailsAtTheNextWrite();
     itIsTakenWhenDown();
     questionsWriteNothing();
   }
@@ -52,6 +54,29 @@ final class Promise08Test {
     Checks.due("armed with the greatest int", graph.count(Probe.ARMED), Integer.MAX_VALUE);
     graph.format();
     Checks.due("armed behind format()", graph.count(Probe.ARMED), Integer.MAX_VALUE - 53);
+  }
+
+  private static void noneIsNotBelowMinusOne() {
+    Checks.refused(States.OPEN, "arm(-2)", IllegalArgumentException.class, graph -> graph.arm(-2));
+    BlockGraph graph = States.OPEN.make();
+    graph.arm(-1);
+    Checks.due("armed behind arm(-1)", graph.count(Probe.ARMED), -1);
+    Checks.due("commit() behind arm(-1)", graph.commit(), true);
+    Checks.due("armed behind that", graph.count(Probe.ARMED), -1);
+  }
+
+  private static void zeroFailsAtTheNextWrite() {
+    BlockGraph zero = States.OPEN.make();
+    int before = zero.count(Probe.WRITES);
+    zero.arm(0);
+    Checks.due("armed behind arm(0)", zero.count(Probe.ARMED), 0);
+    Checks.due("up behind arm(0)", zero.count(Probe.DOWN), 0);
+    Checks.due("commit() behind arm(0)", zero.commit(), false);
+    Checks.due("its writes", zero.count(Probe.WRITES) - before, 0);
+    BlockGraph one = States.OPEN.make();
+    one.arm(1);
+    Checks.due("commit() behind arm(1)", one.commit(), false);
+    Checks.due("its writes", one.count(Probe.WRITES) - before, 1);
   }
 
   private static void itIsTakenWhenDown() {

@@ -13,6 +13,7 @@ final class Promise09Test {
     itMayFailAgainAndAgain();
     aLogIsBroughtHomeOnce();
     whereNoGraphIsNoneComes();
+    anOpenTransactionIsDropped();
     aFullLogWithoutAGraphIsWrittenByItsMark();
   }
 
@@ -83,6 +84,21 @@ final class Promise09Test {
     Checks.due("its writes", graph.count(Probe.WRITES) - before, 0);
     Checks.due("edges then", graph.count(Probe.EDGES), 14);
     Checks.due("transactions then", graph.count(Probe.COMMITTED), 3);
+  }
+
+  private static void anOpenTransactionIsDropped() {
+    for (States.State state : new States.State[] {States.OPEN, States.NINETEEN, States.TWENTY}) {
+      BlockGraph graph = state.make();
+      int before = graph.count(Probe.WRITES);
+      Checks.due("recover() " + state.name(), graph.recover(), Probe.UP);
+      Checks.due("operations behind it", graph.count(Probe.OPERATIONS), -1);
+      Checks.due("edges behind it", graph.count(Probe.EDGES), 5);
+      Checks.due("writes behind it", graph.count(Probe.WRITES), before);
+      Checks.due("edge 1 behind it", Probe.edge(graph, 1), "1 2 5");
+      graph.begin();
+      Checks.due("the next number behind it", graph.add(0, 1, 1), 5);
+      Checks.due("the operations of the next", graph.count(Probe.OPERATIONS), 1);
+    }
   }
 
   private static void whereNoGraphIsNoneComes() {

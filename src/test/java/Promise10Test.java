@@ -12,6 +12,31 @@ final class Promise10Test {
     itLooksAtTheBlock();
     wrongInputsAreRefused();
     itNeedsAGraph();
+    partsAre0To2();
+    onlyVisibleEdgesAreTold();
+  }
+
+  private static void partsAre0To2() {
+    Class<?> argument = IllegalArgumentException.class;
+    BlockGraph graph = States.OPEN.make();
+    Checks.due("edge(5, 0)", graph.edge(5, 0), 3);
+    Checks.due("edge(5, 1)", graph.edge(5, 1), 63);
+    Checks.due("edge(5, 2)", graph.edge(5, 2), 7);
+    Checks.refused(States.OPEN, "edge(5, -1)", argument, one -> one.edge(5, -1));
+    Checks.refused(States.OPEN, "edge(5, 3)", argument, one -> one.edge(5, 3));
+  }
+
+  private static void onlyVisibleEdgesAreTold() {
+    Checks.refused(States.OPEN, "edge(1, 0), a removed one", NO_ELEMENT, one -> one.edge(1, 0));
+    Checks.refused(States.OPEN, "edge(6, 0), behind the last", NO_ELEMENT, one -> one.edge(6, 0));
+    Checks.refused(States.OPEN, "edge(-1, 0)", NO_ELEMENT, one -> one.edge(-1, 0));
+    Checks.refused(States.OPEN, "edge(199, 0)", NO_ELEMENT, one -> one.edge(199, 0));
+    Checks.refused(States.FULL, "edge(200, 0)", NO_ELEMENT, one -> one.edge(200, 0));
+    Checks.due("edge(199, 0) of 200", States.FULL.make().edge(199, 0), 0);
+    BlockGraph aborted = States.OPEN.make();
+    aborted.abort();
+    Checks.due("edge(1, 2) behind abort()", aborted.edge(1, 2), 5);
+    Checks.refused(aborted, "edge(5, 2) behind abort()", NO_ELEMENT, () -> aborted.edge(5, 2));
   }
 
   private static void partsAreAsTheyAreVisible() {

@@ -4,6 +4,8 @@ final class Promise11Test {
 
   static void run() {
     theOldestGo();
+    oneTooManyGoes();
+    roomIs1To50();
     itLastsBehindFormatAndRecover();
     allBlocksMayBeAtHand();
     wrongInputsAreRefused();
@@ -25,6 +27,37 @@ final class Promise11Test {
     graph.edge(3, 0);
     graph.edge(4, 0);
     Checks.due("reads with room for one", graph.count(Probe.READS), 2);
+  }
+
+  private static void oneTooManyGoes() {
+    BlockGraph graph = Probe.formatted();
+    graph.room(9);
+    Checks.due("at hand with room for one more", Probe.hand(graph), "49 48 47 46 45 44 43 42");
+    graph.room(8);
+    Checks.due("at hand with room for them", Probe.hand(graph), "49 48 47 46 45 44 43 42");
+    graph.room(7);
+    Checks.due("at hand with room for one less", Probe.hand(graph), "49 48 47 46 45 44 43");
+    graph.room(8);
+    Checks.due("what went does not come again", Probe.hand(graph), "49 48 47 46 45 44 43");
+    Probe.commitEdges(graph, 1);
+    Checks.due("at hand with the eighth one", Probe.hand(graph), "0 49 48 47 46 45 44 43");
+    Probe.commitEdges(graph, 5);
+    Checks.due("at hand with a ninth one", Probe.hand(graph), "1 0 49 48 47 46 45 44");
+  }
+
+  private static void roomIs1To50() {
+    Class<?> argument = IllegalArgumentException.class;
+    BlockGraph graph = States.OPEN.make();
+    graph.room(1);
+    Checks.due("at hand behind room(1)", Probe.hand(graph), "49");
+    graph.room(50);
+    graph.run(0);
+    Checks.due("at hand behind room(50)", graph.count(Probe.AT_HAND), 50);
+    for (States.State state : new States.State[] {States.NEW, States.IDLE, States.OPEN}) {
+      Checks.refused(state, "room(0)", argument, one -> one.room(0));
+      Checks.refused(state, "room(-1)", argument, one -> one.room(-1));
+      Checks.refused(state, "room(51)", argument, one -> one.room(51));
+    }
   }
 
   private static void itLastsBehindFormatAndRecover() {

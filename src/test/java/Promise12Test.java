@@ -12,6 +12,30 @@ final class Promise12Test {
     wrongInputsAreRefused();
     itNeedsAGraph();
     theLatestRunCounts();
+    oneToAllAreReached();
+    sourcesAre0To63();
+  }
+
+  /** A ring through all vertices, then without its last edge, the one from 63 to 0. */
+  private static void oneToAllAreReached() {
+    BlockGraph graph = Probe.withRing();
+    Checks.due("run(0) on a ring of all", graph.run(0), 64);
+    Checks.due("run(63) on a ring of all", graph.run(63), 64);
+    graph.begin();
+    graph.remove(63);
+    Checks.due("run(0) on a chain of all", graph.run(0), 64);
+    Checks.due("run(1) on a chain of all", graph.run(1), 63);
+    Checks.due("run(63) at its end", graph.run(63), 1);
+  }
+
+  private static void sourcesAre0To63() {
+    BlockGraph graph = States.OPEN.make();
+    Checks.due("run(0)", graph.run(0), 5);
+    Checks.due("run(63)", graph.run(63), 1);
+    for (States.State state : new States.State[] {States.EMPTY, States.IDLE, States.OPEN}) {
+      Checks.refused(state, "run(-1)", ARGUMENT, one -> one.run(-1));
+      Checks.refused(state, "run(64)", ARGUMENT, one -> one.run(64));
+    }
   }
 
   private static void reachedVerticesAreCounted() {

@@ -8,6 +8,7 @@ final class Promise13Test {
   static void run() {
     theShortestWayCounts();
     theLongestWayIsTold();
+    verticesAre0To63();
     wrongInputsAreRefused();
     itNeedsFreshWays();
   }
@@ -47,6 +48,15 @@ final class Promise13Test {
     Checks.due("parent of its end", graph.parent(63), 0);
     Checks.due("its end on the way", graph.way(63, 63), 63);
     Checks.due("vertex 17 on the way", graph.way(63, 17), 17);
+  }
+
+  private static void verticesAre0To63() {
+    BlockGraph graph = States.OPEN.make();
+    Checks.due("distance(0)", graph.distance(0), 0);
+    Checks.due("distance(63)", graph.distance(63), 19);
+    Checks.due("distance(62), not reached", graph.distance(62), -1);
+    Checks.refused(States.OPEN, "distance(-1)", ARGUMENT, one -> one.distance(-1));
+    Checks.refused(States.OPEN, "distance(64)", ARGUMENT, one -> one.distance(64));
   }
 
   private static void wrongInputsAreRefused() {

@@ -8,6 +8,8 @@ final class Promise14Test {
   static void run() {
     theLeastEdgeIsTheParent();
     aLesserEdgeMayComeLater();
+    parentsAre0To199();
+    verticesAre0To63();
     wrongInputsAreRefused();
     itNeedsFreshWays();
   }
@@ -44,6 +46,27 @@ final class Promise14Test {
     graph.add(0, 1, 7);
     graph.run(0);
     Checks.due("parent of 1 by a lesser edge", graph.parent(1), 0);
+  }
+
+  private static void parentsAre0To199() {
+    BlockGraph graph = States.FULL.make();
+    Checks.due("parent(1) of 200 edges to it", graph.parent(1), 0);
+    graph.remove(0);
+    graph.remove(199);
+    graph.add(5, 6, 7);
+    graph.add(0, 9, 1);
+    graph.run(0);
+    Checks.due("parent(1) without edge 0", graph.parent(1), 1);
+    Checks.due("parent(9) by edge 199", graph.parent(9), 199);
+  }
+
+  private static void verticesAre0To63() {
+    BlockGraph graph = States.OPEN.make();
+    Checks.due("parent(0), the source", graph.parent(0), -1);
+    Checks.due("parent(63)", graph.parent(63), 5);
+    Checks.due("parent(62), not reached", graph.parent(62), -1);
+    Checks.refused(States.OPEN, "parent(-1)", ARGUMENT, one -> one.parent(-1));
+    Checks.refused(States.OPEN, "parent(64)", ARGUMENT, one -> one.parent(64));
   }
 
   private static void wrongInputsAreRefused() {

@@ -8,6 +8,8 @@ final class Promise15Test {
 
   static void run() {
     waysGoByParents();
+    waysHaveOneToSixtyFourVertices();
+    verticesAre0To63();
     wrongInputsAreRefused();
     itNeedsFreshWays();
   }
@@ -36,6 +38,32 @@ final class Promise15Test {
     graph.remove(0);
     graph.run(40);
     Checks.due("way to 63 without edge 0", Probe.way(graph, 63), "40 6 5 63");
+  }
+
+  private static void waysHaveOneToSixtyFourVertices() {
+    BlockGraph graph = Probe.withRing();
+    graph.run(1);
+    Checks.due("the first of 64", graph.way(0, 0), 1);
+    Checks.due("the second of 64", graph.way(0, 1), 2);
+    Checks.due("the 63rd of 64", graph.way(0, 62), 63);
+    Checks.due("the last of 64", graph.way(0, 63), 0);
+    Checks.refused(graph, "one behind the last of 64", INDEX, () -> graph.way(0, 64));
+    Checks.refused(graph, "one before the first of 64", INDEX, () -> graph.way(0, -1));
+    Checks.due("the only one", graph.way(1, 0), 1);
+    Checks.refused(graph, "one behind the only one", INDEX, () -> graph.way(1, 1));
+    Checks.due("the last of 63", graph.way(63, 62), 63);
+    Checks.refused(graph, "one behind the last of 63", INDEX, () -> graph.way(63, 63));
+  }
+
+  private static void verticesAre0To63() {
+    BlockGraph graph = States.OPEN.make();
+    Checks.due("way to 0", Probe.way(graph, 0), "0");
+    Checks.due("way to 63", Probe.way(graph, 63), "0 2 3 63");
+    Checks.refused(States.OPEN, "way(63, 4)", INDEX, one -> one.way(63, 4));
+    Checks.refused(States.OPEN, "way(63, -1)", INDEX, one -> one.way(63, -1));
+    Checks.refused(States.OPEN, "way(62, 0), not reached", INDEX, one -> one.way(62, 0));
+    Checks.refused(States.OPEN, "way(-1, 0)", ARGUMENT, one -> one.way(-1, 0));
+    Checks.refused(States.OPEN, "way(64, 0)", ARGUMENT, one -> one.way(64, 0));
   }
 
   private static void wrongInputsAreRefused() {

@@ -8,6 +8,7 @@ final class Promise16Test {
     theLatestComesFirst();
     writtenBlocksAreTheLatest();
     wrongInputsAreRefused();
+    noneToAllAreAtHand();
     itIsAnsweredWhenDown();
   }
 
@@ -51,6 +52,26 @@ final class Promise16Test {
         () -> graph.atHand(Integer.MAX_VALUE));
     graph.recover();
     Checks.refused(graph, "atHand(0) behind recover()", INDEX, () -> graph.atHand(0));
+  }
+
+  private static void noneToAllAreAtHand() {
+    for (int size : new int[] {0, 1, 2, 49, 50}) {
+      States.State state = new States.State("with " + size + " at hand", () -> {
+        BlockGraph graph = new BlockGraph();
+        graph.room(50);
+        graph.arm(1 + size);
+        graph.format();
+        return graph;
+      });
+      BlockGraph graph = state.make();
+      Checks.due("blocks " + state.name(), graph.count(Probe.AT_HAND), size);
+      if (size > 0) {
+        Checks.due("the latest " + state.name(), graph.atHand(0), size - 1);
+        Checks.due("the oldest " + state.name(), graph.atHand(size - 1), 0);
+      }
+      Checks.refused(state, "atHand(" + size + ")", INDEX, one -> one.atHand(size));
+      Checks.refused(state, "atHand(-1)", INDEX, one -> one.atHand(-1));
+    }
   }
 
   private static void itIsAnsweredWhenDown() {

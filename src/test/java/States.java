@@ -20,7 +20,7 @@ final class States {
   static final State FULL_AND_TWENTY = new State("with 200 edges and 20 operations",
       States::fullByOperations);
 
-  /** Every way to be DOWN: there is no graph, or the power failed in one of the calls that write. */
+  /** Every way to be DOWN: there is no graph, or the power failed in a call that writes. */
   static final List<State> DOWN = List.of(
       NEW,
       new State("behind recover() of a new object", () -> recovered(new BlockGraph())),

@@ -137,7 +137,7 @@ final class TermsBlocksTest {
     }
   }
 
-  /** "recover() writes, when the mark says that the log is full, the home blocks ... and the mark" */
+  /** "recover() writes, when the mark says that the log is full, the home blocks and the mark" */
   private static void recoverWritesWhenTheLogIsFull() {
     BlockGraph graph = Probe.withFullLog();
     recovers("a full log", graph, Probe.UP, FULL_LOG_WRITES);

@@ -14,6 +14,7 @@ final class TermsGraphTest {
 
   static void run() {
     verticesAre0To63();
+    vertex0IsAsGoodAsAnother();
     noOtherVertexIsTaken(-1);
     noOtherVertexIsTaken(64);
     edgesHaveTheNumbers0To199();
@@ -37,6 +38,23 @@ final class TermsGraphTest {
     Checks.due("distance(0) from 63", graph.distance(0), 2);
     Checks.due("parent(0) from 63", graph.parent(0), 1);
     Checks.due("way to 0 from 63", Probe.way(graph, 0), "63 0");
+  }
+
+  /** Where 0 could be taken for nothing. */
+  private static void vertex0IsAsGoodAsAnother() {
+    BlockGraph graph = Probe.begun();
+    graph.add(0, 0, 1);
+    graph.add(7, 0, 1);
+    graph.add(0, 7, 1);
+    Checks.due("edges at vertex 0", graph.count(Probe.EDGES), 3);
+    graph.commit();
+    graph.begin();
+    for (int edge = 0; edge < 3; edge++) {
+      graph.remove(edge);
+      Checks.due("edges without edge " + edge, graph.count(Probe.EDGES), 2 - edge);
+    }
+    graph.commit();
+    Checks.due("edges when all are removed", graph.count(Probe.EDGES), 0);
   }
 
   private static void noOtherVertexIsTaken(int vertex) {

@@ -126,7 +126,7 @@ final class TermsWaysTest {
         + Probe.way(graph, 3);
   }
 
-  /** "not by begin(), commit() or questions"; nor by abort() without operations, arm() and room() */
+  /** "not by begin(), commit() or questions"; nor by abort() of nothing, arm() and room() */
   private static void freshWaysStayFresh() {
     Checks.due("ways of a committed graph", answers(States.IDLE.make()), "11 3 0 1 2 3");
     Checks.due("ways in a transaction", answers(States.OPEN.make()), "12 3 0 2 3");
