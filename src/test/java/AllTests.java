@@ -8,6 +8,7 @@ public final class AllTests {
     FaceTest.run();
     LanguageTest.run();
     BoundariesTest.run();
+    ReadmeTest.run();
     TermsGraphTest.run();
     TermsBlocksTest.run();
     TermsPowerTest.run();

@@ -1,3 +1,6 @@
+import java.util.ArrayList;
+import java.util.List;
+
 /**
  * Terms, 2, THE POWER: "fails when it was armed and as many writes more as it was armed with have
  * been: the next write (and all behind it) is not done, and the store is DOWN. (It is not armed any
@@ -17,6 +20,7 @@ final class TermsPowerTest {
     withoutItsMarkItHasNeverBeen();
     aShorterLogHidesALongerOne();
     thereIsNoGraphFromTheFirstWriteOfFormatOn();
+    aFormatWithoutItsFirstWriteChangesNoBlock();
     thereIsAnEmptyGraphFromTheLastOneOn();
   }
 
@@ -155,6 +159,30 @@ final class TermsPowerTest {
       Checks.due(name + ": known", graph.count(Probe.COMMITTED), 0);
       Checks.due(name + ", then recover()", graph.recover(), Probe.NO_GRAPH);
       Checks.due(name + ", then edges", graph.count(Probe.EDGES), -1);
+    }
+  }
+
+  /**
+   * "the next write (and all behind it) is not done": the graph, or that there is none, stays, and
+   * with it what is known of its transactions. Its twin was not formatted at all.
+   */
+  private static void aFormatWithoutItsFirstWriteChangesNoBlock() {
+    List<States.State> states = new ArrayList<>(States.DOWN);
+    states.addAll(List.of(States.EMPTY, States.IDLE, States.OPEN, States.TWENTY, States.FULL));
+    for (States.State state : states) {
+      String name = "format() without a write " + state.name();
+      BlockGraph graph = state.make();
+      int writes = graph.count(Probe.WRITES);
+      int reads = graph.count(Probe.READS);
+      int known = graph.count(Probe.COMMITTED);
+      graph.arm(0);
+      Checks.due(name, graph.format(), false);
+      Checks.due(name + ": counts", Probe.counts(graph),
+          "-1 " + writes + " " + reads + " -1 0 -1 " + known + " 1");
+      BlockGraph twin = state.make();
+      twin.arm(BlockGraph.NONE);
+      Checks.due(name + ", then recover()", graph.recover(), twin.recover());
+      Checks.due(name + ", then all", Probe.everything(graph), Probe.everything(twin));
     }
   }
 
